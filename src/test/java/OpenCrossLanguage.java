@@ -1,0 +1,87 @@
+import java.io.IOException;
+import java.lang.reflect.Constructor;
+import java.lang.reflect.Field;
+import java.lang.reflect.Method;
+import java.lang.reflect.Modifier;
+import java.nio.file.Files;
+import java.nio.file.Path;
+import java.util.Arrays;
+import java.util.List;
+import java.util.Set;
+import java.util.TreeSet;
+import java.util.regex.Matcher;
+import java.util.regex.Pattern;
+
+/** What of LANGUAGE.md can be seen from outside: the face, and words and signs that the source may not hold. */
+public final class OpenCrossLanguage {
+  private static final List<String> FACE = List.of(
+      "int feed(int,int,int,int,int)", "int text(int)", "int told(int,int,int,int,int,int,int)", "int gone(int)",
+      "int less(int,int)", "boolean freeze()", "int cross()", "int open()", "int reference(int)", "boolean collar(int,int)",
+      "boolean back()", "int order(int,int)", "int curve(int,int)!", "int crossed(int)!", "int fill(int)",
+      "int slice(int,int,int,int)", "int trade(int,int)", "int notice(int)!", "int without(int)", "int with(int,int,int,int)",
+      "int moves(int,int)", "long swings()", "int level(int,int,int)", "int past(int,int)!", "int owner(int,int)",
+      "long gain()", "int left()", "int count(int)");
+
+  private static int wrong = 0;
+
+  private static void check(boolean holds, String what) {
+    if (!holds) {
+      wrong++;
+      System.out.println("not as the language asks: " + what);
+    }
+  }
+
+  private static String said(Method m) {
+    StringBuilder b = new StringBuilder(m.getReturnType().getSimpleName()).append(' ').append(m.getName()).append('(');
+    for (Class<?> p : m.getParameterTypes()) b.append(b.charAt(b.length() - 1) == '(' ? "" : ",").append(p.getSimpleName());
+    b.append(')');
+    if (Arrays.asList(m.getExceptionTypes()).contains(java.util.NoSuchElementException.class)) b.append('!');
+    return b.toString();
+  }
+
+  private static void face() {
+    Class<?> c = OpenCross.class;
+    check(Modifier.isPublic(c.getModifiers()) && Modifier.isFinal(c.getModifiers()), "public final class");
+    Set<String> open = new TreeSet<>();
+    Set<String> names = new TreeSet<>();
+    for (Method m : c.getDeclaredMethods()) {
+      if (Modifier.isPrivate(m.getModifiers())) continue;
+      check(Modifier.isPublic(m.getModifiers()) && !Modifier.isStatic(m.getModifiers()), m.getName());
+      open.add(said(m));
+      names.add(m.getName());
+    }
+    check(open.equals(new TreeSet<>(FACE)), "the methods " + open);
+    for (Field f : c.getDeclaredFields()) {
+      check(Modifier.isPrivate(f.getModifiers()) || f.getName().equals("NONE"), "field " + f.getName());
+    }
+    Constructor<?>[] made = c.getDeclaredConstructors();
+    check(made.length == 1 && Modifier.isPublic(made[0].getModifiers()) && made[0].getParameterCount() == 0, "the constructor");
+    for (Class<?> in : c.getDeclaredClasses()) {
+      check(Modifier.isStatic(in.getModifiers()) && !Modifier.isPublic(in.getModifiers()), "class " + in.getName());
+      for (Method m : in.getDeclaredMethods()) check(!names.contains(m.getName()), "a method named as one of the face: " + m);
+    }
+    for (Method m : c.getDeclaredMethods()) {
+      check(!Modifier.isPrivate(m.getModifiers()) || !names.contains(m.getName()), "a private method named as one of the face: " + m);
+    }
+  }
+
+  private static void source() throws IOException {
+    String text = Files.readString(Path.of("src/main/java/OpenCross.java"));
+    String code = text.replaceAll("(?s)/\\*.*?\\*/", "").replaceAll("//[^\n]*", "");
+    String[] never = {"->", "::", "\\bfinally\\b", "\\bsynchronized\\b", "\\bassert\\b", "Exact\\b", "\\bcatch\\b", "\\bpackage\\b",
+        "\\bprotected\\b", "\\bthis::", "System\\.(?!arraycopy)", "\\bdouble\\b", "\\bfloat\\b", "\\bObject\\b", "\\bvar\\b"};
+    for (String n : never) check(!Pattern.compile(n).matcher(code).find(), "the source holds " + n);
+    Matcher m = Pattern.compile("import ([^;]+);").matcher(code);
+    while (m.find()) check(m.group(1).matches("java\\.util\\.(Arrays|NoSuchElementException)"), "import " + m.group(1));
+    check(text.chars().allMatch(c -> c == 10 || c >= 32 && c < 127), "signs of the source");
+    m = Pattern.compile("throw new (\\w+)\\(").matcher(code);
+    while (m.find()) check(m.group(1).equals("NoSuchElementException"), "throw new " + m.group(1));
+  }
+
+  public static void main(String[] args) throws IOException {
+    face();
+    source();
+    System.out.println(wrong == 0 ? "the language is kept, as far as this sees" : wrong + " places");
+    if (wrong != 0) System.exit(1);
+  }
+}
