@@ -485,6 +485,7 @@ public final class OpenCross {
             high = MOST_PRICE;
         }
 
+        /** All but what was: no act goes from CROSSED to CROSSED. */
         void become(Book other) {
             size = other.size;
             phase = other.phase;
@@ -492,9 +493,6 @@ public final class OpenCross {
             low = other.low;
             high = other.high;
             System.arraycopy(other.rows, 0, rows, 0, size * WIDTH);
-            if (phase == CROSSED) {
-                System.arraycopy(other.was, 0, was, 0, size * WIDTH);
-            }
         }
 
         boolean has(int order) {
@@ -583,9 +581,6 @@ public final class OpenCross {
             for (int order = 0; order < size; order++) {
                 set(order, LEAST, 0);
                 set(order, QUANTITY, shownOf(order));
-                if (get(order, KIND) == HIDDEN) {
-                    set(order, GONE, 1);
-                }
             }
         }
 

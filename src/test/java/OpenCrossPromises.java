@@ -118,6 +118,8 @@ public final class OpenCrossPromises {
   }
 
   private static void textBounds() {
+    fine("reference 1", 0);
+    fine("buy ice 5 at 1 shows 1 by 0", 1);
     fault("reference 0", 10, 2);
     fault("reference 1000", 10, 2);
     fine("reference 999", 0);
@@ -148,6 +150,8 @@ public final class OpenCrossPromises {
     fault("buy market 5;;buy market 5", 13, 1);
     fault("Buy market 5", 0, 1);
     fault("buys market 5", 0, 1);
+    fault("buyz market 5", 0, 1);
+    fault("guy market 5", 0, 1);
     fault("buy", 3, 1);
     fault("buy  ", 5, 1);
     fault("buy 5", 4, 1);
@@ -225,6 +229,8 @@ public final class OpenCrossPromises {
     row(x, 1, 1, ICE, 9999, 999, 9999, 0, 0, 0);
     due("told", x.told(1, HIDDEN, 5, 1, -9, 5, 2), 2);
     row(x, 2, 1, HIDDEN, 5, 1, 0, 5, 2, 0);
+    due("told of an ice that shows one", x.told(1, ICE, 5, 1, 1, 5, 2), 3);
+    x.back();
     int[][] bad = {{2, 1, 5, 5, 0, 0, 0}, {-1, 1, 5, 5, 0, 0, 0}, {0, 5, 5, 5, 1, 0, 0}, {0, -1, 5, 5, 0, 0, 0}, {0, 1, 0, 5, 0, 0, 0},
         {0, 1, 10000, 5, 0, 0, 0}, {0, 1, 5, 0, 0, 0, 0}, {0, 1, 5, 1000, 0, 0, 0}, {0, 4, 5, 0, 0, 0, 0}, {0, 3, 5, 5, 0, 0, 0},
         {0, 3, 5, 5, 6, 0, 0}, {0, 1, 5, 5, 0, 6, 0}, {0, 1, 5, 5, 0, -1, 0}, {0, 1, 5, 5, 0, 0, 8}, {0, 1, 5, 5, 0, 0, -1}};
@@ -408,6 +414,8 @@ public final class OpenCrossPromises {
     due("count(3)", x.count(3), 101);
     due("count(4)", x.count(4), 102);
     result(x, 101, 100, -150, 2, 1, 0, 2);
+    due("collar(99, 99)", x.collar(99, 99), true);
+    result(x, 99, 150, 150, 0, 1, 0, 1);
     due("collar(103, 999)", x.collar(103, 999), true);
     result(x, -1, 0, 0, 0, 1, 0, 0);
     due("curve outside of it", x.curve(100, 4), 150);
@@ -454,6 +462,7 @@ public final class OpenCrossPromises {
     due("count(0)", x.count(0), 3);
     due("count(8)", x.count(8), 3);
     backLimits();
+    backAndForth();
   }
 
   private static void backLimits() {
@@ -478,6 +487,26 @@ public final class OpenCrossPromises {
     due("trade(1, 2)", x.trade(1, 2), 50);
     due("gain()", x.gain(), 350);
     due("open()", x.open(), 2);
+  }
+
+  /** Twice round all that is kept for going back, so that what is used again shows nothing of before. */
+  private static void backAndForth() {
+    OpenCross x = new OpenCross();
+    for (int k = 0; k < 30; k++) {
+      due("told", x.told(0, ICE, 9, 9, 9, 9, 7), 0);
+      row(x, 0, 0, ICE, 9, 9, 9, 9, 7, 0);
+      x.gone(0);
+      row(x, 0, 0, ICE, 9, 9, 9, 9, 7, 1);
+      x.back();
+      due("told", x.told(1, MARKET, 1, 0, 0, 0, 0), 1);
+      row(x, 1, 1, MARKET, 1, 0, 0, 0, 0, 0);
+      x.gone(1);
+      x.back();
+      x.back();
+      x.back();
+      due("count(0)", x.count(0), 0);
+      x.reference(1 + k);
+    }
   }
 
   private static void p13() {
@@ -506,6 +535,19 @@ public final class OpenCrossPromises {
     due("curve(100, 5)", x.curve(100, 5), 0);
     x.gone(0);
     due("curve(100, 0) without a gone one", x.curve(100, 0), 207);
+    buy(x, LIMIT, 43, 500);
+    sell(x, LIMIT, 99, 500);
+    sell(x, LIMIT, 1, 400);
+    due("curve(500, 2)", x.curve(500, 2), -300);
+    x.gone(8);
+    x.gone(9);
+    x.gone(10);
+    OpenCross one = new OpenCross();
+    buy(one, LIMIT, 2, 10);
+    sell(one, LIMIT, 1, 10);
+    sell(one, EVEN, 5, 10);
+    due("curve(10, 4)", one.curve(10, 4), 2);
+    due("curve(10, 5)", one.curve(10, 5), 0);
     x.told(0, LIMIT, 9, 100, 0, 9, 0);
     due("curve counts those that would be out", x.curve(100, 0), 216);
     int[][] bad = {{0, 0}, {1000, 0}, {5, -1}, {5, 6}, {FAR, 0}, {5, DEEP}};
@@ -583,10 +625,27 @@ public final class OpenCrossPromises {
     result(x, 101, 10, -2, 3, 1, 0, 9);
     x.reference(99);
     result(x, 99, 10, 2, 3, 1, 0, 9);
+    nearestOfTwo();
     x.collar(98, 100);
     result(x, 100, 10, 2, 2, 1, 0, 3);
     x.collar(101, 103);
     result(x, 101, 10, -2, 2, 1, 0, 3);
+  }
+
+  /** 99 and 101 are alike but for the sign of what is left; between them fewer trade. */
+  private static void nearestOfTwo() {
+    OpenCross x = new OpenCross();
+    buy(x, LIMIT, 5, 99);
+    buy(x, LIMIT, 7, 101);
+    sell(x, LIMIT, 4, 99);
+    sell(x, LIMIT, 8, 101);
+    sell(x, EVEN, 6, 99);
+    buy(x, EVEN, 3, 101);
+    result(x, 101, 10, -2, 3, 1, 0, 2);
+    x.reference(99);
+    result(x, 99, 10, 2, 3, 1, 0, 2);
+    x.reference(999);
+    result(x, 101, 10, -2, 3, 1, 0, 2);
   }
 
   private static void rounds() {
@@ -675,6 +734,18 @@ public final class OpenCrossPromises {
     trades(x, 0, 4, 40, 0, 4, 60, 1, 4, 20, 1, 2, 150, 1, 5, 30);
     x.open();
     trades(x);
+    OpenCross y = new OpenCross();
+    for (int k = 0; k < 4; k++) buy(y, LIMIT, 1, 50);
+    sell(y, LIMIT, 3, 50);
+    trades(y, 0, 4, 1, 1, 4, 1, 2, 4, 1);
+    OpenCross z = new OpenCross();
+    for (int k = 0; k < 20; k++) {
+      z.told(0, ICE, 5, 50, 2, 0, 0);
+      z.told(1, ICE, 5, 50, 3, 0, 0);
+    }
+    due("trade(-1, 0) of many slices", z.trade(-1, 0), 67);
+    due("trade(66, 2)", z.trade(66, 2), 2);
+    due("trade(67, 2)", z.trade(67, 2), -1);
   }
 
   private static void p19() {
@@ -692,10 +763,16 @@ public final class OpenCrossPromises {
     due("notice(0), crossed: by orders as they are now", x.notice(0), -1);
     due("notice(6), crossed", x.notice(6), 0);
     OpenCross y = new OpenCross();
-    y.told(0, LIMIT, 10, 100, 0, 0, 0);
     y.told(1, LIMIT, 20, 100, 0, 15, 0);
+    y.told(0, LIMIT, 10, 100, 0, 0, 0);
     due("notice(1): no least", y.notice(1), 10);
     due("crossed(1): least", y.crossed(1), 0);
+    OpenCross z = new OpenCross();
+    z.told(1, HIDDEN, 20, 100, 0, 0, 0);
+    z.told(0, ICE, 10, 100, 4, 0, 0);
+    due("notice(1): hidden alone", z.notice(1), 0);
+    z.told(1, MARKET, 20, 0, 0, 0, 0);
+    due("notice(1): what the ice shows", z.notice(1), 4);
   }
 
   private static void p20() {
@@ -816,6 +893,12 @@ public final class OpenCrossPromises {
     due("level(1, -1, 3)", x.level(1, -1, 3), 2);
     int[][] bad = {{0, 2, 0}, {0, -2, 0}, {0, 0, 4}, {0, 0, -1}, {2, 0, 0}, {-1, -1, 0}, {0, FAR, 0}, {1, DEEP, DEEP}};
     for (int[] b : bad) due("level of others", x.level(b[0], b[1], b[2]), -1);
+    OpenCross z = new OpenCross();
+    buy(z, LIMIT, 3, 999);
+    due("count(7)", z.count(7), 1000);
+    sell(z, LIMIT, 4, 1);
+    due("level(0, 0, 0)", z.level(0, 0, 0), 999);
+    due("level(1, 0, 0)", z.level(1, 0, 0), 1);
     OpenCross y = new OpenCross();
     for (int k = 0; k < 40; k++) y.told(1, LIMIT, 1, 999 - k, 0, 0, 0);
     due("level(1, -1, 0)", y.level(1, -1, 0), 40);
@@ -922,6 +1005,10 @@ public final class OpenCrossPromises {
     int[] due = {6, 0, 7, 8, 9, 5, 70, 80, 9, 20, 0, -1};
     for (int w = 0; w < due.length; w++) due("count(" + w + ")", x.count(w), due[w]);
     due("count(-1)", x.count(-1), -1);
+    OpenCross y = new OpenCross();
+    sell(y, LIMIT, 5, 30);
+    due("count(6) without", y.count(6), 0);
+    due("count(7) with", y.count(7), 30);
     due("count(deep)", x.count(DEEP), -1);
     x.cross();
     due("count(10)", x.count(10), 1);
