@@ -714,6 +714,11 @@ public final class OpenCrossPromises {
     due("slice(1, 50, 1, 0)", x.slice(1, 50, 1, 0), 12);
     due("slice(1, 49, -1, 0)", x.slice(1, 49, -1, 0), 1);
     due("slice(1, 48, -1, 0)", x.slice(1, 48, -1, 0), 0);
+    OpenCross y = new OpenCross();
+    buy(y, LIMIT, 3, 999);
+    buy(y, EVEN, 3, 999);
+    buy(y, MARKET, 4, 0);
+    for (int i = 0; i < 3; i++) due("slice(0, 999, " + i + ", 0)", y.slice(0, 999, i, 0), new int[] {2, 0, 1}[i]);
     int[][] bad = {{0, 100, 11, 0}, {0, 100, -2, 0}, {0, 100, 0, 2}, {0, 100, 0, -1}, {2, 100, 0, 0}, {-1, 100, -1, 0}, {0, 0, 0, 0}, {0, 1000, -1, 0}, {0, 100, FAR, FAR}};
     for (int[] b : bad) due("slice of others", x.slice(b[0], b[1], b[2], b[3]), -1);
   }
