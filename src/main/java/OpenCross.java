@@ -247,7 +247,7 @@ public final class OpenCross {
     }
 
     public int slice(int side, int price, int i, int what) {
-        if (!isSide(side) || !isPrice(price)) {
+        if (!isSide(side) || !isPrice(price) || !within(what, 0, 1)) {
             return NONE;
         }
         auction.hold(book, book.rows);
@@ -255,22 +255,22 @@ public final class OpenCross {
             return auction.countSlices(side, price);
         }
         int key = auction.findSlice(side, price, i);
-        if (key == NONE || !within(what, 0, 1)) {
+        if (key == NONE) {
             return NONE;
         }
         return what == 0 ? Auction.numberOf(key) : auction.sizeOf(key);
     }
 
     public int trade(int i, int what) {
+        if (!within(what, 0, 2)) {
+            return NONE;
+        }
         runCross();
         auction.match();
         if (i == NONE) {
             return auction.tradeCount;
         }
-        if (!within(i, 0, auction.tradeCount - 1) || !within(what, 0, 2)) {
-            return NONE;
-        }
-        return auction.tradePart(i, what);
+        return within(i, 0, auction.tradeCount - 1) ? auction.tradePart(i, what) : NONE;
     }
 
     public int notice(int what) throws NoSuchElementException {
@@ -340,13 +340,13 @@ public final class OpenCross {
     }
 
     public int level(int side, int i, int what) {
-        if (!isSide(side)) {
+        if (!isSide(side) || !within(what, 0, 3)) {
             return NONE;
         }
         if (i == NONE) {
             return book.countLevels(side);
         }
-        if (!within(i, 0, MOST_ORDERS - 1) || !within(what, 0, 3)) {
+        if (!within(i, 0, MOST_ORDERS - 1)) {
             return NONE;
         }
         int price = book.levelPrice(side, i);

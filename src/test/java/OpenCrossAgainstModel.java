@@ -78,7 +78,7 @@ public final class OpenCrossAgainstModel {
   }
 
   boolean ask() {
-    int side = odd(2), p = price(), o = number(), i = draw(5) == 0 ? -1 : draw(6), w = i == -1 ? 0 : odd(3), q = quantity(), k = odd(5);
+    int side = odd(2), p = price(), o = number(), i = draw(5) == 0 ? -1 : draw(6), w = odd(3), q = quantity(), k = odd(5);
     int seven = odd(7), four = odd(4), six = odd(6), eight = odd(8), own = odd(8), eleven = odd(11), two = odd(2);
     switch (draw(17)) {
       case 0: return same("order(" + o + "," + eight + ")", () -> x.order(o, eight), () -> m.order(o, eight));

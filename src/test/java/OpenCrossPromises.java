@@ -719,7 +719,8 @@ public final class OpenCrossPromises {
     buy(y, EVEN, 3, 999);
     buy(y, MARKET, 4, 0);
     for (int i = 0; i < 3; i++) due("slice(0, 999, " + i + ", 0)", y.slice(0, 999, i, 0), new int[] {2, 0, 1}[i]);
-    int[][] bad = {{0, 100, 11, 0}, {0, 100, -2, 0}, {0, 100, 0, 2}, {0, 100, 0, -1}, {2, 100, 0, 0}, {-1, 100, -1, 0}, {0, 0, 0, 0}, {0, 1000, -1, 0}, {0, 100, FAR, FAR}};
+    int[][] bad = {{0, 100, 11, 0}, {0, 100, -2, 0}, {0, 100, 0, 2}, {0, 100, 0, -1}, {2, 100, 0, 0}, {-1, 100, -1, 0}, {0, 0, 0, 0}, {0, 1000, -1, 0}, {0, 100, FAR, FAR},
+        {0, 100, -1, 2}, {0, 100, -1, -1}, {1, 50, -1, FAR}, {1, 48, -1, DEEP}};
     for (int[] b : bad) due("slice of others", x.slice(b[0], b[1], b[2], b[3]), -1);
   }
 
@@ -731,6 +732,8 @@ public final class OpenCrossPromises {
     due("trade(0, 3)", x.trade(0, 3), -1);
     due("trade(0, -1)", x.trade(0, -1), -1);
     due("trade(-2, 0)", x.trade(-2, 0), -1);
+    for (int w : new int[] {3, -1, FAR, DEEP}) due("trade(-1, " + w + "): what is another", x.trade(-1, w), -1);
+    for (int w = 0; w < 3; w++) due("trade(-1, " + w + ")", x.trade(-1, w), 2);
     due("trade(far, 0)", x.trade(FAR, 0), -1);
     x.told(1, ICE, 120, 98, 40, 0, 0);
     x.told(1, EVEN, 90, 97, 0, 0, 0);
@@ -896,7 +899,8 @@ public final class OpenCrossPromises {
     }
     due("level(0, -1, 0)", x.level(0, -1, 0), 2);
     due("level(1, -1, 3)", x.level(1, -1, 3), 2);
-    int[][] bad = {{0, 2, 0}, {0, -2, 0}, {0, 0, 4}, {0, 0, -1}, {2, 0, 0}, {-1, -1, 0}, {0, FAR, 0}, {1, DEEP, DEEP}};
+    int[][] bad = {{0, 2, 0}, {0, -2, 0}, {0, 0, 4}, {0, 0, -1}, {2, 0, 0}, {-1, -1, 0}, {0, FAR, 0}, {1, DEEP, DEEP},
+        {0, -1, -1}, {0, -1, 4}, {1, -1, FAR}, {1, -1, DEEP}};
     for (int[] b : bad) due("level of others", x.level(b[0], b[1], b[2]), -1);
     OpenCross z = new OpenCross();
     buy(z, LIMIT, 3, 999);

@@ -338,17 +338,18 @@ final class PlainModel {
   int fill(int i) { return in(i, 0, now.orders.size() - 1) ? outcome().fills[i] : -1; }
 
   int slice(int side, int p, int i, int what) {
-    if (!in(side, 0, 1) || !in(p, 1, 999)) return -1;
+    if (!in(side, 0, 1) || !in(p, 1, 999) || !in(what, 0, 1)) return -1;
     List<Slice> all = slices(now.orders, side, p);
     if (i == -1) return all.size();
-    if (!in(i, 0, all.size() - 1) || !in(what, 0, 1)) return -1;
+    if (!in(i, 0, all.size() - 1)) return -1;
     return what == 0 ? all.get(i).order.number : all.get(i).many;
   }
 
   int trade(int i, int what) {
+    if (!in(what, 0, 2)) return -1;
     List<int[]> all = outcome().trades;
     if (i == -1) return all.size();
-    return in(i, 0, all.size() - 1) && in(what, 0, 2) ? all.get(i)[what] : -1;
+    return in(i, 0, all.size() - 1) ? all.get(i)[what] : -1;
   }
 
   int notice(int what) {
@@ -399,7 +400,7 @@ final class PlainModel {
   }
 
   int level(int side, int i, int what) {
-    if (!in(side, 0, 1)) return -1;
+    if (!in(side, 0, 1) || !in(what, 0, 3)) return -1;
     List<int[]> levels = new ArrayList<>();
     for (int k = 1; k <= 999; k++) {
       int p = side == 0 ? 1000 - k : k;
@@ -413,7 +414,7 @@ final class PlainModel {
       if (l[3] > 0) levels.add(l);
     }
     if (i == -1) return levels.size();
-    return in(i, 0, levels.size() - 1) && in(what, 0, 3) ? levels.get(i)[what] : -1;
+    return in(i, 0, levels.size() - 1) ? levels.get(i)[what] : -1;
   }
 
   int past(int i, int what) {
