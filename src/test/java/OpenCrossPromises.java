@@ -1,80 +1,5 @@
-import java.nio.charset.StandardCharsets;
-import java.util.NoSuchElementException;
-
 /** Each promise of the document by hand: ordinary inputs, the edges that it names, and wrong inputs. */
-public final class OpenCrossPromises {
-  interface Ask { long answer(); }
-
-  private static final int MARKET = 0, LIMIT = 1, HIDDEN = 2, ICE = 3, EVEN = 4;
-  private static final int FAR = Integer.MAX_VALUE, DEEP = Integer.MIN_VALUE;
-  private static final long THROWS = Long.MIN_VALUE;
-  private static int wrong = 0;
-  private static String promise = "";
-
-  private static void due(String call, long got, long want) {
-    if (got != want) {
-      wrong++;
-      System.out.println(promise + ": " + call + " answered " + told(got) + ", due is " + told(want));
-    }
-  }
-
-  private static void due(String call, boolean got, boolean want) { due(call, got ? 1 : 0, want ? 1 : 0); }
-
-  private static String told(long answer) { return answer == THROWS ? "NoSuchElementException" : String.valueOf(answer); }
-
-  private static long get(Ask ask) {
-    try { return ask.answer(); } catch (NoSuchElementException e) { return THROWS; }
-  }
-
-  private static int buy(OpenCross x, int kind, int quantity, int price) { return x.told(0, kind, quantity, price, 1, 0, 0); }
-
-  private static int sell(OpenCross x, int kind, int quantity, int price) { return x.told(1, kind, quantity, price, 1, 0, 0); }
-
-  private static int feedAll(OpenCross x, String text) {
-    byte[] bytes = text.getBytes(StandardCharsets.ISO_8859_1);
-    int last = x.count(9);
-    for (int at = 0; at < bytes.length; at += 20) {
-      int[] n = new int[5];
-      for (int k = 0; k < 20; k++) n[k / 4] = n[k / 4] << 8 | (at + k < bytes.length ? bytes[at + k] & 255 : 32);
-      last = x.feed(n[0], n[1], n[2], n[3], n[4]);
-    }
-    return last;
-  }
-
-  private static int read(OpenCross x, String text) {
-    feedAll(x, text);
-    return x.text(text.length());
-  }
-
-  private static void fault(String text, int place, int kind) {
-    due("text '" + text + "'", read(new OpenCross(), text), -2 - (8 * place + kind));
-  }
-
-  private static void fine(String text, int orders) { due("text '" + text + "'", read(new OpenCross(), text), orders); }
-
-  private static void row(OpenCross x, int order, int... due) {
-    for (int w = 0; w < due.length; w++) due("order(" + order + ", " + w + ")", x.order(order, w), due[w]);
-  }
-
-  private static void result(OpenCross x, int... due) {
-    for (int w = 0; w < due.length; w++) { int a = w; due("crossed(" + w + ")", get(() -> x.crossed(a)), due[w]); }
-  }
-
-  private static void trades(OpenCross x, int... due) {
-    due("trade(-1, 0)", x.trade(-1, 0), due.length / 3);
-    for (int k = 0; k < due.length; k++) due("trade(" + k / 3 + ", " + k % 3 + ")", x.trade(k / 3, k % 3), due[k]);
-  }
-
-  /** 150 are sold at 99, 300 bought at 100 and above, 100 sold at 101. */
-  private static OpenCross four() {
-    OpenCross x = new OpenCross();
-    x.told(0, LIMIT, 100, 102, 0, 0, 1);
-    x.told(0, LIMIT, 200, 100, 0, 0, 2);
-    x.told(1, LIMIT, 150, 99, 0, 0, 3);
-    x.told(1, LIMIT, 100, 101, 0, 0, 1);
-    return x;
-  }
-
+public final class OpenCrossPromises extends Checks {
   private static void p1() {
     promise = "1 a new object";
     OpenCross x = new OpenCross();
@@ -489,10 +414,10 @@ public final class OpenCrossPromises {
     due("open()", x.open(), 2);
   }
 
-  /** Twice round all that is kept for going back, so that what is used again shows nothing of before. */
+  /** Round all that is kept for going back, and on, so that what is used again shows nothing of before. */
   private static void backAndForth() {
     OpenCross x = new OpenCross();
-    for (int k = 0; k < 30; k++) {
+    for (int k = 0; k < 14; k++) {
       due("told", x.told(0, ICE, 9, 9, 9, 9, 7), 0);
       row(x, 0, 0, ICE, 9, 9, 9, 9, 7, 0);
       x.gone(0);
