@@ -10,6 +10,7 @@ public final class OpenCrossActEdges extends Checks {
       due("fill(0)", x.fill(0), -1);
     });
     edge("1: REFERENCE 100 at first, COLLAR 1, 999 at first, GATHERING at first", () -> counts(new OpenCross(), 0, GATHERING, 100, 1, 999));
+    edge("The constants: NONE is -1", () -> due("NONE", OpenCross.NONE, -1));
     edge("1: one object knows nothing of another", () -> {
       OpenCross x = four();
       OpenCross y = new OpenCross();

@@ -37,10 +37,11 @@ public final class OpenCrossAgainstModel {
     return false;
   }
 
-  int price() { return draw(40) == 0 ? draw(1003) - 2 : Math.max(1, Math.min(999, center + draw(width) - width / 2)); }
-  int quantity() { return draw(60) == 0 ? draw(3) - 1 : draw(90) == 0 ? 9998 + draw(4) : 1 + draw(most); }
-  int odd(int n) { return draw(wrongness) == 0 ? draw(n + 6) - 3 : draw(n); }
-  int number() { return draw(wrongness) == 0 ? draw(60) - 10 : draw(Math.max(1, m.now.orders.size())); }
+  int far() { return new int[] {Integer.MIN_VALUE, Integer.MIN_VALUE + 1, -1000, 1 << 16, 1 << 28, 1 << 29, Integer.MAX_VALUE - 1, Integer.MAX_VALUE}[draw(8)]; }
+  int price() { return draw(200) == 0 ? far() : draw(40) == 0 ? draw(1003) - 2 : Math.max(1, Math.min(999, center + draw(width) - width / 2)); }
+  int quantity() { return draw(300) == 0 ? far() : draw(60) == 0 ? draw(3) - 1 : draw(90) == 0 ? 9998 + draw(4) : 1 + draw(most); }
+  int odd(int n) { return draw(wrongness) == 0 ? (draw(4) == 0 ? far() : draw(n + 6) - 3) : draw(n); }
+  int number() { return draw(wrongness) == 0 ? (draw(4) == 0 ? far() : draw(60) - 10) : draw(Math.max(1, m.now.orders.size())); }
 
   boolean tell() {
     int side = odd(2), kind = odd(5), q = quantity(), p = price(), shows = odd(Math.max(1, q)) + 1;
@@ -78,7 +79,7 @@ public final class OpenCrossAgainstModel {
   }
 
   boolean ask() {
-    int side = odd(2), p = price(), o = number(), i = draw(5) == 0 ? -1 : draw(6), w = odd(3), q = quantity(), k = odd(5);
+    int side = odd(2), p = price(), o = number(), i = draw(5) == 0 ? -1 : odd(6), w = odd(3), q = quantity(), k = odd(5);
     int seven = odd(7), four = odd(4), six = odd(6), eight = odd(8), own = odd(8), eleven = odd(11), two = odd(2);
     switch (draw(17)) {
       case 0: return same("order(" + o + "," + eight + ")", () -> x.order(o, eight), () -> m.order(o, eight));

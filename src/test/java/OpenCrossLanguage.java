@@ -65,6 +65,25 @@ public final class OpenCrossLanguage {
     }
   }
 
+  /** Rules 5 and 11: what static fields may be, how many parameters, classes and fields there are. */
+  private static void sizes() {
+    Set<Class<?>> still = Set.of(int.class, long.class, boolean.class, char.class, String.class, int[].class, long[].class, char[].class, byte[].class);
+    Class<?>[] inside = OpenCross.class.getDeclaredClasses();
+    check(inside.length < 12, "classes " + inside.length);
+    Class<?>[] all = Arrays.copyOf(inside, inside.length + 1);
+    all[inside.length] = OpenCross.class;
+    for (Class<?> c : all) {
+      int fields = 0;
+      for (Field f : c.getDeclaredFields()) {
+        boolean fixed = Modifier.isStatic(f.getModifiers());
+        fields += fixed ? 0 : 1;
+        check(!fixed || Modifier.isFinal(f.getModifiers()) && still.contains(f.getType()), "static field " + f);
+      }
+      check(fields <= 20, "fields of " + c + ": " + fields);
+      for (Method m : c.getDeclaredMethods()) check(m.getParameterCount() <= 7, "parameters of " + m);
+    }
+  }
+
   private static void source() throws IOException {
     String text = Files.readString(Path.of("src/main/java/OpenCross.java"));
     String code = text.replaceAll("(?s)/\\*.*?\\*/", "").replaceAll("//[^\n]*", "");
@@ -80,6 +99,7 @@ public final class OpenCrossLanguage {
 
   public static void main(String[] args) throws IOException {
     face();
+    sizes();
     source();
     System.out.println(wrong == 0 ? "the language is kept, as far as this sees" : wrong + " places");
     if (wrong != 0) System.exit(1);
