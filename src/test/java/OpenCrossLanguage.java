@@ -97,10 +97,33 @@ public final class OpenCrossLanguage {
     while (m.find()) check(m.group(1).equals("NoSuchElementException"), "throw new " + m.group(1));
   }
 
+  /** Rules 11 and 12: methods stay short, and what is made is made once: by a field, by the constructor, by a throw. */
+  private static void methods() throws IOException {
+    String opens = "( {4}| {8})(?! )[^=;]*\\) (throws \\w+ )?\\{";
+    String made = " *(private |static )*final .* = new .*| {4}private Book (book|draft) = new Book\\(\\);"
+        + "| {12}acts\\[i\\] = new Book\\(\\);| *throw new .*";
+    String end = null;
+    int first = 0, found = 0, at = 0;
+    for (String line : Files.readAllLines(Path.of("src/main/java/OpenCross.java"))) {
+      at++;
+      if (end == null && line.matches(opens)) {
+        end = line.replaceAll("\\S.*", "}");
+        first = at;
+        found++;
+      } else if (line.equals(end)) {
+        check(at - first < 60, "a method of " + (at - first + 1) + " lines, from line " + first);
+        end = null;
+      }
+      check(!line.matches(".*\\bnew .*") || line.matches(made), "line " + at + " makes an object: " + line.trim());
+    }
+    check(end == null && found > 28, "methods found: " + found);
+  }
+
   public static void main(String[] args) throws IOException {
     face();
     sizes();
     source();
+    methods();
     System.out.println(wrong == 0 ? "the language is kept, as far as this sees" : wrong + " places");
     if (wrong != 0) System.exit(1);
   }
